@@ -322,7 +322,7 @@ public final class WalkingOrchard {
                 || !isWithin(x, 0, 10) || !isWithin(part, 0, 1)) {
             return BAD;
         }
-        long above = tenthsOfFrost(r, cell, n, x);
+        long above = casesOfFrost(r, cell, n, x);
         long below = 1;
         for (int k = 0; k < n; k++) {
             below *= 10;
@@ -482,7 +482,7 @@ public final class WalkingOrchard {
     }
 
     /** In how many of 10 to the n equal cases a row, that stays in x of ten, comes to a cell. */
-    private long tenthsOfFrost(int r, int cell, int n, int x) {
+    private long casesOfFrost(int r, int cell, int n, int x) {
         long cases = 0;
         for (int stays = 0; stays < 1 << n; stays++) {
             long weight = 1;
