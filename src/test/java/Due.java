@@ -20,6 +20,13 @@ final class Due {
         }
     }
 
+    /** What count answers from 0 on. */
+    void counts(String what, WalkingOrchard orchard, int... want) {
+        for (int i = 0; i < want.length; i++) {
+            is(what + ", count(" + i + ")", orchard.count(i), want[i]);
+        }
+    }
+
     void end(String test) {
         System.out.println(test + ": " + asked + " answers, " + wrong + " not as due");
         if (wrong != 0) {
