@@ -192,6 +192,8 @@ public final class EdgesTest {
 
     private static void again() {
         due.is("19: behind one", Due.laid("l3;l0;t0,1,0,1;").again(), 1);
+        due.is("19: round four cells, from the first on", Due.laid("l00;l00;t0,0,1,0;").again(), 4);
+        due.is("19: two of them, one behind the other", Due.laid("l00;l00;t0,0,1,0,2;").again(), 4);
         // All come round behind 201 years: a year too late.
         String late = "l000000;l000000;l000000;l000000;l000200;t1,1,1,22;t3,0,1,0;t0,2,1,23,17,11;";
         WalkingOrchard o = Due.laid(late);

@@ -58,6 +58,15 @@ public final class LandEdgesTest {
         due.is("3: nothing of it is left behind the new one", o.fault(), Due.NONE);
         due.is("3: nor laid", o.lay(), 1);
         due.is("3: nor owned", o.cell(0, 1), 0);
+        // What stood behind it in the text of before does not end an item that has no end.
+        for (String begun : new String[] {"l", "l0", "l0;t0,0,0,0", "l0;t0,0,0,", "l0;t0,0,0"}) {
+            o.wipe();
+            for (char letter : begun.toCharArray()) {
+                o.write(letter);
+            }
+            due.is("3: of " + begun, o.fault(), begun.length() > 3 ? 3 : 0);
+            due.is("3: of " + begun, o.lay(), Due.NO);
+        }
     }
 
     /** A text without fault, of one row and so many letters (80 to 200). */
@@ -198,6 +207,13 @@ public final class LandEdgesTest {
         due.is("6: no tree in it", o.cell(35, 3), Due.NONE);
         due.is("6: behind it", o.cell(36, 0), Due.BAD);
         due.is("6: ahead of the first one", o.cell(-1, 0), Due.BAD);
+        for (int ground = 0; ground < 4; ground++) {
+            o = Due.laid("l" + ground + "00000;l000000;l000000;l000000;l000000;l00000" + ground
+                + ";t3,3,0,1;t3,1,0,34;");
+            due.all("6: the first and the last cell, of " + ground, ground, o.cell(0, 0), o.cell(35, 0));
+            due.is("7: into the first cell, of " + ground, o.row(0, 4), ground < 3 ? 0 : 7);
+            due.is("7: into the last cell, of " + ground, o.row(1, 4), ground < 3 ? 35 : 28);
+        }
         o = Due.laid(WIDEST + "t0,1,1,35;");
         due.is("6: a tree in the last cell", o.cell(35, 3), 0);
         o.dig(0);
