@@ -308,10 +308,17 @@ public final class ActsTest {
         due.is("14: of dig", o.undo(), 0);
         due.is("14: no ditch", o.count(6), 0);
         due.is("14: nothing more", o.undo(), Due.NO);
+        o = Due.laid("l00;l00;t0,0,1,0;t1,0,0,3,2;");
+        o.pass(1);
+        due.is("14: row 0 has turned", o.row(0, 1), 1);
+        o.undo();
+        due.is("14: it heads as it did", o.row(0, 1), 0);
+        due.is("14: so does row 1", o.row(1, 1), 0);
+        o = Due.laid("l0010;l0000;t0,1,3,1;t1,2,1,5,4;");
         o.pass(2);
         o.dig(0);
         o.undo();
-        o.leave(0);
+        o.leave(1);
         due.is("14: of what came behind what was undone", o.undo(), 1);
         due.is("14: the year", o.count(3), 2);
         due.is("14: of pass", o.undo(), 0);

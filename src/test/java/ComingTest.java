@@ -122,6 +122,18 @@ public final class ComingTest {
         due.is("19: not the same heading", o.again(), Due.NONE);
         o.pass(1);
         due.is("19: each tree where it is", o.again(), 4);
+        o = Due.laid("l000;l000;t0,1,1,1,4;");
+        due.is("19: the first tree behind 6, but never the second", o.again(), Due.NONE);
+        o.pass(1);
+        due.is("19: both", o.again(), 6);
+        // Behind 9 the first is in 1 and the second in 0: the same cells, not the same trees.
+        o = Due.laid("l003;l033;l003;l003;t0,1,1,0,1;");
+        due.is("19: each tree in its own", o.again(), Due.NONE);
+        o.pass(9);
+        due.all("19: the other way round", 1, o.tree(0, 0), o.row(0, 1), o.again());
+        due.is("19: slow is the first of two", Due.laid("l030;t2,0,1,0;t0,0,1,2;").again(), 2);
+        due.is("19: slow is the last of two", Due.laid("l030;t0,0,1,0;t2,0,1,2;").again(), 2);
+        due.is("19: none is slow", Due.laid("l030;t0,0,1,0;t1,0,1,2;").again(), 1);
         o = Due.laid("l003000;l003000;t0,1,0,0;t0,1,0,3;");
         o.pass(4);
         due.is("19: all rows", o.again(), 12);
@@ -170,6 +182,10 @@ public final class ComingTest {
         }
         o = Due.laid("l00000;t0,1,0,0;t0,3,0,4;");
         asked("of row 1, by one ahead of row 0", o, 1, 2, 2, 1);
+        o = Due.laid("l000;l000;t2,1,0,0;");
+        o.pass(1);
+        askedNone("of a slow one in an uneven year", o, 0, 4, 1);
+        asked("of a slow one a year on", o, 0, 4, 2, 2);
     }
 
     private static void ditchesThatCannotBe() {
@@ -260,6 +276,14 @@ public final class ComingTest {
         o = Due.laid("l0300;t0,1,1,0;o2,2,1;o3,3,3;");
         o.dig(2);
         due.is("21: not where there is one", o.best(1, 1, 0), 3);
+        o = Due.laid("l000;l000;o1,1,1;o3,3,2;t0,1,2,0;");
+        o.dig(1);
+        due.is("21: the one that there is stays", o.best(1, 1, 1), 0);
+        due.is("21: and keeps the row from 1", o.best(2, 1, 1), 2);
+        o = Due.laid("l000;o2,2,1;t2,1,3,0;");
+        o.pass(1);
+        due.all("21: a slow one stays in an uneven year", 0, o.best(1, 1, 0), o.best(1, 1, 1));
+        due.is("21: and goes in the next", o.best(1, 2, 1), 3);
         // To do without a ditch would bring more: one is dug all the same.
         o = Due.laid("l00;o1,1,1;t0,1,5,0;");
         due.is("21: by a ditch", o.best(1, 3, 0), 1);

@@ -11,6 +11,7 @@ public final class FrostTest {
         centuryWrong();
         keep();
         back();
+        whatStays();
         count();
         due.end("FrostTest");
     }
@@ -39,6 +40,8 @@ public final class FrostTest {
         chance("three or more of eight", o, 3, 8, 5, 219, 256);
         chance("eight of eight", o, 0, 8, 1, 1, 100000000);
         chance("eight of eight by 2", o, 0, 8, 2, 1, 390625);
+        chance("the second tree alone", Due.laid("l0000;t0,1,0,1,0;"), 0, 2, 3, 0, 1);
+        chance("the second tree, too", Due.laid("l0000;t0,1,0,1,0;"), 1, 2, 3, 9, 100);
         chance("a brook ahead", Due.laid("l02;t0,1,0,0;"), 0, 4, 3, 1, 1);
         o = Due.laid("l0000;t2,1,0,0;");
         chance("a slow one goes in even years", o, 1, 2, 5, 1, 2);
@@ -98,6 +101,10 @@ public final class FrostTest {
         o.pass(1);
         years("from now on, by the same draws", o, 0, new int[] {12, 18, 21}, new int[] {1, 1, 1});
         due.is("26: none is left behind", o.row(0, 3), 2);
+        // By z = 14 nothing is dug, filled or left behind ahead of the first three years.
+        o = Due.laid("l0010;t2,1,1,0;");
+        o.pass(1);
+        years("a slow one from an uneven year", o, 14, new int[] {2, 4, 5}, new int[] {0, 0, 0});
     }
 
     /** The draw of z = 25 ahead of year 0: the last tree of row 3867 modulo how many is left behind. */
@@ -178,6 +185,23 @@ public final class FrostTest {
         o.keep();
         o.lay();
         due.is("28: none is kept behind lay", o.back(), Due.NO);
+    }
+
+    /** What is seen, can be undone, is kept, and how long the text is: no call touches what is not its own. */
+    private static void whatStays() {
+        String text = "l000000;o0,5,1;t0,1,1,1,0;";
+        String[] calls = {"write(120)", "wipe()", "fault()", "see(0, 1, 1)", "forget()", "keep()", "pass(2)", "dig(5)",
+            "fill(4)", "leave(0)", "undo()", "back()", "lay()"};
+        int l = text.length();
+        int[][] counts = {{1, 2, 1, l + 1}, {1, 2, 1, 0}, {1, 2, 1, l}, {2, 2, 1, l}, {0, 2, 1, l}, {1, 2, 2, l},
+            {1, 3, 1, l}, {1, 3, 1, l}, {1, 3, 1, l}, {1, 3, 1, l}, {1, 1, 1, l}, {1, 0, 0, l}, {0, 0, 0, l}};
+        for (int i = 0; i < calls.length; i++) {
+            WalkingOrchard o = Due.laid(text);
+            Calls.run(o, "pass(1)", "dig(4)", "see(0, 2, 0)", "keep()", calls[i]);
+            for (int what = 8; what < 12; what++) {
+                due.is("29: count(" + what + ") behind " + calls[i], o.count(what), counts[i][what - 8]);
+            }
+        }
     }
 
     private static void count() {

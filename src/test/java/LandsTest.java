@@ -182,6 +182,9 @@ public final class LandsTest {
         fault("l00;l00;t0,0,0,0,3;", 8);
         fault("l00;l00;t0,0,0,1,3,2,0;", Due.NONE);
         fault("l00;l00;t0,0,0,0,2,3,1;", Due.NONE);
+        // 4 is next to the first tree, and 3 to the one before.
+        fault("l000;l000;t0,0,0,1,0,4;", 10);
+        fault("l000;l000;t0,0,0,1,0,3;", Due.NONE);
         fault("l00;t0,0,0,0;t0,0,0,0;", 13);
         fault("l00;t0,0,0,0;t0,0,0,1,0;", 13);
         fault("l0000;t0,0,0,0;t0,0,0,1;t0,0,0,2;", Due.NONE);
@@ -241,6 +244,10 @@ public final class LandsTest {
         due.is("5: year", o.count(3), 0);
         due.is("5: nobody has anything", o.count(7), 0);
         due.is("5: nothing can be undone", o.undo(), Due.NO);
+        o = Due.laid("l00;o0,1,2;l00;o2,2,3;t0,1,0,0;l00;");
+        due.all("5: owners told ahead of a line", 2, o.cell(0, 1), o.cell(1, 1));
+        due.is("5: owners told behind it", o.cell(2, 1), 3);
+        due.all("5: nobody's", 0, o.cell(3, 1), o.cell(4, 1), o.cell(5, 1));
         due.is("5: three rows", Due.written("l000;t0,0,0,0;t0,0,0,1;t0,0,0,2;").lay(), 3);
         due.is("5: one row", Due.written("l0;t0,0,0,0;").lay(), 1);
         due.is("5: the first one leaves no owners", Due.laid("l0000;t0,0,0,0;").cell(0, 1), 0);
@@ -299,6 +306,8 @@ public final class LandsTest {
         due.is("6: a ditch", o.cell(4, 2), 1);
         due.is("6: its ground", o.cell(4, 0), 0);
         due.all("6: no ditch beside", 0, o.cell(5, 2), o.cell(0, 2));
+        o.dig(6);
+        due.all("6: a ditch in each of two", 1, o.cell(4, 2), o.cell(6, 2));
         o.leave(0);
         due.is("6: a tree left behind", o.cell(0, 3), 9);
         due.is("6: the other one", o.cell(1, 3), 0);

@@ -8,6 +8,7 @@ public final class SeenTest {
         see();
         forget();
         heads();
+        headsOfKinds();
         kinds();
         asThingsStand();
         stays();
@@ -70,6 +71,8 @@ public final class SeenTest {
         due.is("24: not where it is now", headsBySight(CROSS, 3, 0), 0);
         due.is("24: three of them", headsBySight("l00;t0,1,0,0;", 1, 20), 7);
         due.is("24: west alone", headsBySight("l00;t0,1,0,0;", 0, 20), 8);
+        due.is("24: the second tree's cell", headsBySight("l0000;t0,1,0,1,0;", 0, 0), 0);
+        due.is("24: the first in it, if it stays", headsBySight("l0000;t0,1,0,1,0;", 1, 1), 8);
         WalkingOrchard o = Due.laid(CROSS);
         o.see(0, 2, 2);
         due.is("24: by the north", o.fits(0, 0), 1);
@@ -81,6 +84,18 @@ public final class SeenTest {
         for (int far : Due.FAR_OUT) {
             due.all("24: wrong with " + far, Due.BAD, o.fits(far, 0), o.fits(0, far), o.fits(far, 1));
         }
+    }
+
+    /** It heads another way, but is of its own kind and goes in the years in which it would. */
+    private static void headsOfKinds() {
+        due.is("24: a left one", headsBySight("l000;l000;l000;t1,1,0,4;", 2, 2), 2);
+        due.is("24: a bold one", headsBySight("l020;l000;l000;t3,2,0,4;", 1, 1), 1);
+        WalkingOrchard o = Due.laid("l000;l000;l000;t2,1,0,4;");
+        o.pass(1);
+        o.see(0, 5, 1);
+        due.is("24: a slow one stays in an uneven year", o.fits(0, 0), 15);
+        o.see(0, 2, 2);
+        due.is("24: and goes in the next", o.fits(0, 0), 1);
     }
 
     private static void kinds() {
