@@ -186,6 +186,7 @@ public final class ComingTest {
         o.pass(1);
         askedNone("of a slow one in an uneven year", o, 0, 4, 1);
         asked("of a slow one a year on", o, 0, 4, 2, 2);
+        asked("of a slow one, two years on", o, 0, 4, 3, 2);
     }
 
     private static void ditchesThatCannotBe() {
